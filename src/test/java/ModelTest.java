@@ -1,0 +1,180 @@
+import java.util.Random;
+
+/**
+ * Promises 1 to 19 on random runs of 512 calls: the class and the plain Model are asked the same,
+ * and after each call all that can be seen of both is compared.
+ */
+final class ModelTest {
+    private static final int RUNS = 200;
+    private static final int CALLS = 512;
+
+    private ModelTest() {
+    }
+
+    public static void main(String[] args) {
+        for (int seed = 1; seed <= RUNS; seed++) {
+            new Run(seed).go();
+        }
+        Check.end();
+    }
+
+    private static final class Run {
+        private final int seed;
+        private final Random random;
+        private final FileDelivery real;
+        private final Model model;
+        /** How a run leans: how often it ticks, delivers, harms units, calls the user's methods, and uses wrong numbers. */
+        private final int ticks;
+        private final int delivers;
+        private final int harms;
+        private final int users;
+        private final int strange;
+        private final boolean inOrder;
+
+        Run(int seed) {
+            this.seed = seed;
+            random = new Random(seed);
+            int timer = random.nextInt(3) == 0 ? random.nextInt() : random.nextInt(3);
+            real = new FileDelivery(timer);
+            model = new Model(timer);
+            ticks = 1 + random.nextInt(12);
+            delivers = random.nextInt(14);
+            harms = random.nextInt(4);
+            users = 1 + random.nextInt(5);
+            strange = random.nextInt(3) == 0 ? 12 : 200;
+            inOrder = random.nextBoolean();
+        }
+
+        void go() {
+            for (int call = 1; call <= CALLS; call++) {
+                oneCall();
+                compareAll(call);
+            }
+        }
+
+        private int pick(int low, int high) {
+            if (random.nextInt(strange) == 0) {
+                int[] odd = {low - 1, high + 1, -1, Integer.MIN_VALUE, Integer.MAX_VALUE, random.nextInt()};
+                return odd[random.nextInt(odd.length)];
+            }
+            return low + random.nextInt(high - low + 1);
+        }
+
+        private int pickUnit() {
+            int count = model.units();
+            return inOrder && random.nextInt(8) != 0 ? 0 : pick(0, Math.max(0, count - 1));
+        }
+
+        private int pickNumber(int entity) {
+            int given = entity == 0 || entity == 1 ? model.outs.get(entity).size() : 1;
+            return pick(Math.max(1, given - 3), Math.max(1, given));
+        }
+
+        private void both(String call, Check.Call ofReal, Check.Call ofModel) {
+            Check.same("run " + seed + ": " + call, Check.outcome(ofReal), Check.outcome(ofModel));
+        }
+
+        private void oneCall() {
+            int lot = random.nextInt(ticks + delivers + harms + users);
+            if (lot < ticks) {
+                both("tick()", real::tick, model::tick);
+            } else if (lot < ticks + delivers) {
+                int k = pickUnit();
+                both("deliver(" + k + ")", () -> real.deliver(k), () -> model.deliver(k));
+            } else if (lot < ticks + delivers + harms) {
+                harm();
+            } else {
+                use();
+            }
+        }
+
+        private void harm() {
+            int k = pickUnit();
+            int bits = random.nextInt(4) == 0 ? random.nextInt() : 1 << random.nextInt(32);
+            switch (random.nextInt(4)) {
+                case 0:
+                    both("copy(" + k + ")", () -> real.copy(k), () -> model.copy(k));
+                    break;
+                case 1:
+                    both("spoil(" + k + ", " + bits + ")", () -> real.spoil(k, bits), () -> model.spoil(k, bits));
+                    break;
+                default:
+                    both("lose(" + k + ")", () -> real.lose(k), () -> model.lose(k));
+                    break;
+            }
+        }
+
+        private void use() {
+            int entity = pick(0, 1);
+            int file = pick(0, 5);
+            int number = pickNumber(entity);
+            switch (random.nextInt(10)) {
+                case 0:
+                    both("create", () -> real.create(entity, file), () -> model.create(entity, file));
+                    break;
+                case 1:
+                    both("delete", () -> real.delete(entity, file), () -> model.delete(entity, file));
+                    break;
+                case 2:
+                    both("cancel", () -> real.cancel(entity, number), () -> model.cancel(entity, number));
+                    break;
+                case 3:
+                case 4:
+                    boolean on = random.nextInt(3) == 0;
+                    both("suspend", () -> real.suspend(entity, number, on), () -> model.suspend(entity, number, on));
+                    break;
+                case 5:
+                case 6:
+                    int n = pick(1, 8);
+                    long w = random.nextLong();
+                    both("append", () -> real.append(entity, file, n, w), () -> model.append(entity, file, n, w));
+                    break;
+                default:
+                    real.create(entity, file);
+                    model.create(entity, file);
+                    int dest = pick(0, 5);
+                    int kind = Math.min(2, pick(0, 3) + 1);
+                    int request = pick(0, 2);
+                    int other = pick(0, 5);
+                    both("put", () -> real.put(entity, file, dest, kind, request, other),
+                        () -> model.put(entity, file, dest, kind, request, other));
+                    break;
+            }
+        }
+
+        private void compareAll(int call) {
+            String behind = "behind call " + call + ", ";
+            both(behind + "units()", real::units, model::units);
+            int k = random.nextInt(27) - 1;
+            for (int w = -1; w <= 4; w++) {
+                int field = w;
+                both(behind + "unit(" + k + ", " + w + ")", () -> real.unit(k, field), () -> model.unit(k, field));
+            }
+            for (int entity = -1; entity <= 2; entity++) {
+                compareFiles(behind, entity);
+                int given = entity == 0 || entity == 1 ? model.outs.get(entity).size() : 0;
+                for (int number = Math.max(-1, given - 6); number <= given + 1; number++) {
+                    compareTransaction(behind, entity, number);
+                }
+            }
+        }
+
+        private void compareFiles(String behind, int entity) {
+            for (int f = -1; f <= 6; f++) {
+                int file = f;
+                both(behind + "size(" + entity + ", " + f + ")",
+                    () -> real.size(entity, file), () -> model.size(entity, file));
+                int i = random.nextInt(67) - 1;
+                both(behind + "at(" + entity + ", " + f + ", " + i + ")",
+                    () -> real.at(entity, file, i), () -> model.at(entity, file, i));
+            }
+        }
+
+        private void compareTransaction(String behind, int entity, int number) {
+            String which = "(" + entity + ", " + number + ")";
+            both(behind + "sender" + which, () -> real.sender(entity, number), () -> model.sender(entity, number));
+            both(behind + "receiver" + which, () -> real.receiver(entity, number), () -> model.receiver(entity, number));
+            both(behind + "request" + which, () -> real.request(entity, number), () -> model.request(entity, number));
+        }
+    }
+}
