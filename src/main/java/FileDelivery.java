@@ -324,7 +324,8 @@ public final class FileDelivery {
         }
 
         int segmentLength(int file, int segment) {
-            return Math.min(SEGMENT_BYTES, sizes[file] - segment * SEGMENT_BYTES);
+            int left = sizes[file] - segment * SEGMENT_BYTES;
+            return left < SEGMENT_BYTES ? left : SEGMENT_BYTES;
         }
 
         /** A segment's bytes in one number, the first byte the lowest. */
@@ -429,7 +430,7 @@ public final class FileDelivery {
         }
 
         void send(Unit unit) {
-            if (!isFull()) {
+            if (count < MOST_UNITS) {
                 row[count] = unit;
                 count++;
             }
@@ -471,8 +472,7 @@ public final class FileDelivery {
 
         boolean locks(int file) {
             for (int i = 0; i < openSenders.size(); i++) {
-                Sender one = openSenders.get(i);
-                if (one.isOpen() && one.about.file == file) {
+                if (openSenders.get(i).about.file == file) {
                     return true;
                 }
             }

@@ -43,6 +43,28 @@ final class ModelTest {
             users = 1 + random.nextInt(5);
             strange = random.nextInt(3) == 0 ? 12 : 200;
             inOrder = random.nextBoolean();
+            if (random.nextInt(3) != 0) {
+                fillStores();
+            }
+        }
+
+        /** Files of all sizes to begin with, so that long ones are sent and have several gaps. */
+        private void fillStores() {
+            for (int entity = 0; entity < 2; entity++) {
+                for (int file = 0; file < 6; file += 1 + random.nextInt(2)) {
+                    fill(entity, file);
+                }
+            }
+        }
+
+        private void fill(int entity, int file) {
+            both("create", () -> real.create(entity, file), () -> model.create(entity, file));
+            int size = random.nextInt(65);
+            for (int left = size; left > 0; left -= 8) {
+                int n = Math.min(left, 8);
+                long w = random.nextLong();
+                both("append", () -> real.append(entity, file, n, w), () -> model.append(entity, file, n, w));
+            }
         }
 
         void go() {

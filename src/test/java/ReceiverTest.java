@@ -78,6 +78,23 @@ final class ReceiverTest {
         s.receiver(0, 1, Script.DONE).quietThen(3, Script.END);
         s.x.deliver(0);
         s.receiver(0, 4, Script.OPEN).kinds(Script.ACK, Script.NAK).detail(1, 8);
+        closingMakesRoomAtOnce();
+    }
+
+    private static void closingMakesRoomAtOnce() {
+        Script s = new Script("room at once", 0).file(0, 0, 0);
+        for (int i = 0; i < 3; i++) {
+            s.x.put(0, 0, i, 1, 0, 0);
+        }
+        s.ticks(2);
+        s.x.put(0, 0, 3, 1, 0, 0);
+        s.ticks(1);
+        for (int i = 0; i < 4; i++) {
+            s.x.deliver(0);
+        }
+        s.receiver(0, 1, Script.DONE).receiver(0, 3, Script.OPEN).receiver(0, 4, 0);
+        s.x.deliver(2);
+        s.receiver(0, 4, Script.OPEN);
     }
 
     private static void anyOrder() {
@@ -132,6 +149,14 @@ final class ReceiverTest {
         s.x.spoil(2, 0x80);
         s.deliverAll().receiver(0, 1, Script.DONE);
         s.due("byte 0", s.x.at(1, 1, 0), 0);
+        Script high = new Script("bytes above 127", 0).file(0, 0, 0);
+        high.x.append(0, 0, 8, 0x01_00_00_00_7f_00_00_00L);
+        high.x.put(0, 0, 1, 1, 0, 0);
+        high.ticks(4);
+        high.x.spoil(1, (0x7f ^ 0x80) << 24);
+        high.x.spoil(2, 1 << 24);
+        high.deliverAll().receiver(0, 1, Script.DONE);
+        high.due("byte 3", high.x.at(1, 1, 3), 0x80);
         Script t = under("bytes change places within a segment", 4, 1);
         t.x.spoil(1, 3 | 3 << 8);
         t.deliverAll().receiver(0, 1, Script.FAILED);
@@ -196,6 +221,19 @@ final class ReceiverTest {
         t.x.deliver(0);
         t.x.deliver(0);
         t.kinds(Script.ACK, Script.NAK).detail(1, 1);
+        Script u = under("the last segment", 61, 2);
+        u.x.lose(16);
+        for (int i = 0; i < 17; i++) {
+            u.x.deliver(0);
+        }
+        u.kinds(Script.ACK, Script.NAK).detail(1, 1).receiver(0, 1, Script.OPEN);
+        u.x.deliver(1);
+        u.ticks(1).kinds(Script.ACK, Script.DATA).detail(1, 15).deliverAll().size(1, 1, 61);
+        Script v = under("METADATA alone", 4, 2);
+        v.x.lose(0);
+        v.x.deliver(0);
+        v.x.deliver(0);
+        v.kinds(Script.ACK, Script.NAK).detail(1, 8);
     }
 
     private static void naksAreRepeated() {

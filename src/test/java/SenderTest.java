@@ -12,6 +12,7 @@ final class SenderTest {
         unitsPutTheSilenceOff();
         nakGetsRepairs();
         repairsComeBeforeTimers();
+        naksAddUp();
         nakOfACancelledOneIsDropped();
         finishedIsAnswered();
         cancelWrong();
@@ -25,6 +26,7 @@ final class SenderTest {
         suspendStopsTicks();
         suspendGetsAndAnswers();
         closedOnesStayClosed();
+        failedAnswersFinished();
         manyTransactions();
         Check.end();
     }
@@ -157,6 +159,27 @@ final class SenderTest {
         s.loseAll().ticks(1).kinds(Script.END);
     }
 
+    /** A later NAK that names less takes nothing back of what an earlier one asked for. */
+    private static void naksAddUp() {
+        Script s = sending("NAKs add up", 12, 2).ticks(5);
+        s.x.deliver(4);
+        s.kinds(Script.METADATA, Script.DATA, Script.DATA, Script.DATA, Script.ACK, Script.NAK).detail(5, 8 + 1);
+        s.x.deliver(4);
+        for (int i = 0; i < 3; i++) {
+            s.x.deliver(0);
+        }
+        s.kinds(Script.DATA, Script.NAK).ticks(4).kinds(Script.DATA, Script.NAK, Script.NAK).detail(2, 1);
+        s.x.lose(0);
+        s.x.deliver(0);
+        s.x.deliver(0);
+        s.ticks(1).kinds(Script.METADATA);
+        for (int segment = 0; segment < 3; segment++) {
+            s.loseAll().ticks(1);
+            s.due("kind", s.x.unit(0, 0), Script.DATA);
+            s.detail(0, segment);
+        }
+    }
+
     private static void nakOfACancelledOneIsDropped() {
         Script s = sending("a late NAK of a cancelled one", 4, 2).ticks(3);
         s.x.lose(0);
@@ -166,7 +189,9 @@ final class SenderTest {
         s.x.cancel(0, 1);
         s.x.deliver(1);
         s.loseAll().ticks(1).kinds(Script.END).detail(0, -1);
-        s.quietThen(2, Script.NAK).quietThen(0, Script.END).detail(0, -1);
+        s.quietThen(2, Script.NAK);
+        s.x.deliver(0);
+        s.kinds().quietThen(0, Script.END).detail(0, -1);
     }
 
     private static void finishedIsAnswered() {
@@ -234,11 +259,16 @@ final class SenderTest {
     private static void cancelDropsRepairs() {
         Script s = acknowledged("cancel drops repairs", 8);
         s.x.deliver(0);
-        s.ticks(1).kinds(Script.METADATA);
-        s.loseAll();
+        s.kinds();
         s.x.cancel(0, 1);
         s.ticks(1).kinds(Script.END).detail(0, -1);
-        s.deliverAll().sender(0, 1, Script.CANCELLED);
+        s.quietThen(1);
+        Script t = acknowledged("cancel makes END due again", 8);
+        t.loseAll();
+        t.x.cancel(0, 1);
+        t.ticks(1).kinds(Script.END).detail(0, -1);
+        t.loseAll().ticks(3).loseAll().ticks(1).kinds(Script.END).detail(0, -1);
+        t.deliverAll().sender(0, 1, Script.CANCELLED);
     }
 
     /** An ACK of the END from before it was cancelled counts only when the cancelled one was sent. */
@@ -349,6 +379,24 @@ final class SenderTest {
         for (int k = 0; k < s.x.units(); k++) {
             s.due("nothing of the sender", s.x.unit(k, 1), 0);
         }
+    }
+
+    /** FINISHED comes to a sender that has failed: it answers, and its result stays. */
+    private static void failedAnswersFinished() {
+        Script s = sending("failed", 0, 2).ticks(2);
+        s.x.deliver(0);
+        s.x.deliver(0);
+        s.kinds(Script.ACK, Script.FINISHED);
+        s.x.lose(0);
+        for (int i = 0; i < 12; i++) {
+            s.ticks(1);
+            while (s.x.units() > 1) {
+                s.x.lose(1);
+            }
+        }
+        s.sender(0, 1, Script.FAILED).kinds(Script.FINISHED).detail(0, Script.DONE);
+        s.x.deliver(0);
+        s.kinds(Script.ACK).detail(0, 4).sender(0, 1, Script.FAILED);
     }
 
     /** The class keeps every transaction that 512 calls can open. */
