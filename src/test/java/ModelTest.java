@@ -2,11 +2,12 @@ import java.util.Random;
 
 /**
  * Promises 1 to 19 on random runs of 512 calls: the class and the plain Model are asked the same,
- * and after each call all that can be seen of both is compared.
+ * and between the calls that change something it is compared what can be seen of both.
  */
 final class ModelTest {
-    private static final int RUNS = 200;
-    private static final int CALLS = 512;
+    private static final int RUNS = 4000;
+    /** Kept for the comparison at the end of a run. */
+    private static final int LAST_CALLS = 64;
 
     private ModelTest() {
     }
@@ -21,7 +22,7 @@ final class ModelTest {
     private static final class Run {
         private final int seed;
         private final Random random;
-        private final FileDelivery real;
+        private final Counted real;
         private final Model model;
         /** How a run leans: how often it ticks, delivers, harms units, calls the user's methods, and uses wrong numbers. */
         private final int ticks;
@@ -35,7 +36,7 @@ final class ModelTest {
             this.seed = seed;
             random = new Random(seed);
             int timer = random.nextInt(3) == 0 ? random.nextInt() : random.nextInt(3);
-            real = new FileDelivery(timer);
+            real = new Counted(timer);
             model = new Model(timer);
             ticks = 1 + random.nextInt(12);
             delivers = random.nextInt(14);
@@ -68,10 +69,18 @@ final class ModelTest {
         }
 
         void go() {
-            for (int call = 1; call <= CALLS; call++) {
+            while (real.callsLeft() > LAST_CALLS) {
                 oneCall();
-                compareAll(call);
+                compareUnits();
+                if (random.nextInt(3) == 0) {
+                    int entity = random.nextInt(2);
+                    compareTransaction(entity, pickNumber(entity));
+                }
+                if (random.nextInt(8) == 0) {
+                    compareFile(pick(0, 1), pick(0, 5));
+                }
             }
+            compareAtLast();
         }
 
         private int pick(int low, int high) {
@@ -93,7 +102,7 @@ final class ModelTest {
         }
 
         private void both(String call, Check.Call ofReal, Check.Call ofModel) {
-            Check.same("run " + seed + ": " + call, Check.outcome(ofReal), Check.outcome(ofModel));
+            Check.same("run " + seed + ", " + real.callsLeft() + " calls left: " + call, Check.outcome(ofReal), Check.outcome(ofModel));
         }
 
         private void oneCall() {
@@ -164,39 +173,42 @@ final class ModelTest {
             }
         }
 
-        private void compareAll(int call) {
-            String behind = "behind call " + call + ", ";
-            both(behind + "units()", real::units, model::units);
-            int k = random.nextInt(27) - 1;
-            for (int w = -1; w <= 4; w++) {
-                int field = w;
-                both(behind + "unit(" + k + ", " + w + ")", () -> real.unit(k, field), () -> model.unit(k, field));
+        private void compareUnits() {
+            if (random.nextInt(2) == 0) {
+                both("units()", real::units, model::units);
             }
-            for (int entity = -1; entity <= 2; entity++) {
-                compareFiles(behind, entity);
-                int given = entity == 0 || entity == 1 ? model.outs.get(entity).size() : 0;
-                for (int number = Math.max(-1, given - 6); number <= given + 1; number++) {
-                    compareTransaction(behind, entity, number);
+            if (random.nextInt(3) == 0) {
+                int last = model.units() - 1;
+                int k = random.nextInt(3) == 0 ? random.nextInt(27) - 1 : last - random.nextInt(2);
+                int w = pick(0, 3);
+                both("unit(" + k + ", " + w + ")", () -> real.unit(k, w), () -> model.unit(k, w));
+            }
+        }
+
+        private void compareAtLast() {
+            for (int entity = 0; entity < 2; entity++) {
+                for (int file = 0; file < 6; file++) {
+                    compareFile(entity, file);
+                }
+                int given = model.outs.get(entity).size();
+                for (int number = Math.max(1, given - 4); number <= given; number++) {
+                    compareTransaction(entity, number);
                 }
             }
         }
 
-        private void compareFiles(String behind, int entity) {
-            for (int f = -1; f <= 6; f++) {
-                int file = f;
-                both(behind + "size(" + entity + ", " + f + ")",
-                    () -> real.size(entity, file), () -> model.size(entity, file));
-                int i = random.nextInt(67) - 1;
-                both(behind + "at(" + entity + ", " + f + ", " + i + ")",
-                    () -> real.at(entity, file, i), () -> model.at(entity, file, i));
-            }
+        private void compareFile(int entity, int file) {
+            both("size(" + entity + ", " + file + ")", () -> real.size(entity, file), () -> model.size(entity, file));
+            int i = pick(0, Math.max(0, model.size(entity, file) - 1));
+            both("at(" + entity + ", " + file + ", " + i + ")",
+                () -> real.at(entity, file, i), () -> model.at(entity, file, i));
         }
 
-        private void compareTransaction(String behind, int entity, int number) {
+        private void compareTransaction(int entity, int number) {
             String which = "(" + entity + ", " + number + ")";
-            both(behind + "sender" + which, () -> real.sender(entity, number), () -> model.sender(entity, number));
-            both(behind + "receiver" + which, () -> real.receiver(entity, number), () -> model.receiver(entity, number));
-            both(behind + "request" + which, () -> real.request(entity, number), () -> model.request(entity, number));
+            both("sender" + which, () -> real.sender(entity, number), () -> model.sender(entity, number));
+            both("receiver" + which, () -> real.receiver(entity, number), () -> model.receiver(entity, number));
+            both("request" + which, () -> real.request(entity, number), () -> model.request(entity, number));
         }
     }
 }

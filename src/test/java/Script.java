@@ -13,12 +13,12 @@ final class Script {
     static final int OPEN = 5;
     static final int ENDED = 6;
 
-    final FileDelivery x;
+    final Counted x;
     private final String name;
 
     Script(String name, int timer) {
         this.name = name;
-        x = new FileDelivery(timer);
+        x = new Counted(timer);
     }
 
     void due(String call, Object got, Object due) {
@@ -28,8 +28,14 @@ final class Script {
     /** A file with the bytes 1, 2, .. size. */
     Script file(int entity, int file, int size) {
         due("create", x.create(entity, file), true);
-        for (int i = 0; i < size; i++) {
-            due("append", x.append(entity, file, 1, i + 1), i + 1);
+        for (int there = 0; there < size; ) {
+            int n = Math.min(8, size - there);
+            long w = 0;
+            for (int i = n; i >= 1; i--) {
+                w = w << 8 | there + i;
+            }
+            there += n;
+            due("append", x.append(entity, file, n, w), there);
         }
         return this;
     }
@@ -41,17 +47,76 @@ final class Script {
         return this;
     }
 
+    /** Opens a sender without a request. */
+    Script put(int due, int entity, int file, int dest, int kind) {
+        due("put", x.put(entity, file, dest, kind, 0, 0), due);
+        return this;
+    }
+
+    Script deliver(int... units) {
+        for (int k : units) {
+            due("deliver(" + k + ")", x.deliver(k), true);
+        }
+        return this;
+    }
+
+    Script lose(int... units) {
+        for (int k : units) {
+            due("lose(" + k + ")", x.lose(k), true);
+        }
+        return this;
+    }
+
+    Script copy(int... units) {
+        for (int k : units) {
+            due("copy(" + k + ")", x.copy(k), true);
+        }
+        return this;
+    }
+
+    Script spoil(int k, int bits) {
+        due("spoil(" + k + ", " + bits + ")", x.spoil(k, bits), true);
+        return this;
+    }
+
+    Script cancel(int entity, int number, boolean due) {
+        due("cancel(" + entity + ", " + number + ")", x.cancel(entity, number), due);
+        return this;
+    }
+
+    Script suspend(int entity, int number, boolean on, boolean due) {
+        due("suspend(" + entity + ", " + number + ", " + on + ")", x.suspend(entity, number, on), due);
+        return this;
+    }
+
     Script deliverAll() {
-        for (int i = 0; i < 1000 && x.units() > 0; i++) {
-            x.deliver(0);
+        while (x.deliver(0)) {
+            // Counted ends a run that never ends.
         }
         return this;
     }
 
     Script loseAll() {
-        while (x.units() > 0) {
-            x.lose(0);
+        while (x.lose(0)) {
+            // Counted ends a run that never ends.
         }
+        return this;
+    }
+
+    /** Loses all but the first n units. */
+    Script loseBehind(int n) {
+        while (x.lose(n)) {
+            // Counted ends a run that never ends.
+        }
+        return this;
+    }
+
+    /** Copies unit k until 24 are under way. */
+    Script fill(int k) {
+        for (int count = x.units(); count < 24; count++) {
+            copy(k);
+        }
+        due("units()", x.units(), 24);
         return this;
     }
 
@@ -92,6 +157,19 @@ final class Script {
 
     Script detail(int k, int due) {
         due("unit(" + k + ", 3)", x.unit(k, 3), due);
+        return this;
+    }
+
+    Script refused(String call, Class<?> due, Check.Call made) {
+        Check.refused(name + ": " + call, due, made);
+        return this;
+    }
+
+    Script bytes(int entity, int file, int... due) {
+        size(entity, file, due.length);
+        for (int i = 0; i < due.length; i++) {
+            due("at(" + entity + ", " + file + ", " + i + ")", x.at(entity, file, i), due[i]);
+        }
         return this;
     }
 

@@ -401,19 +401,15 @@ final class SenderTest {
 
     /** The class keeps every transaction that 512 calls can open. */
     private static void manyTransactions() {
-        Script s = new Script("many", 0);
-        s.x.create(0, 0);
+        Script s = new Script("many", 0).file(0, 0, 0);
         int number = 0;
-        for (int calls = 1; calls + 5 <= 512; calls += 5) {
+        while (s.x.callsLeft() >= 5 + 4) {
             for (int i = 0; i < 3; i++) {
                 number++;
-                s.due("put", s.x.put(0, 0, 0, 1, 0, 0), number);
+                s.put(number, 0, 0, 0, 1);
             }
             s.ticks(2);
         }
-        for (int n = 1; n <= number; n++) {
-            s.sender(0, n, Script.DONE);
-        }
-        s.sender(0, number + 1, 0);
+        s.sender(0, 1, Script.DONE).sender(0, number, Script.DONE).sender(0, number + 1, 0);
     }
 }
