@@ -95,13 +95,15 @@ final class ReceiverEdgesTest {
         Script s = threeOpen("closed in a tick").put(4, 0, 0, 0, 1).ticks(1).kinds(Script.METADATA).copy(0);
         s.suspend(0, 4, true, true).ticks(12).receiver(0, 1, Script.OPEN).deliver(0).receiver(0, 4, 0);
         s.ticks(1).receiver(0, 1, Script.FAILED).deliver(0).receiver(0, 4, Script.OPEN);
-        Script t = new Script("closed by a unit", 0).file(0, 0, 0);
-        for (int number = 1; number <= 3; number++) {
-            t.put(number, 0, 0, 0, 1);
+        for (int closed = 1; closed <= 3; closed++) {
+            Script t = new Script("closed by a unit: " + closed, 0).file(0, 0, 0);
+            for (int number = 1; number <= 3; number++) {
+                t.put(number, 0, 0, 0, 1);
+            }
+            t.ticks(2).deliver(0, 0, 0).put(4, 0, 0, 0, 1).put(5, 0, 0, 0, 1).ticks(1).copy(3).deliver(3).receiver(0, 4, 0);
+            t.deliver(closed - 1).receiver(0, closed, Script.DONE).deliver(3).receiver(0, 4, Script.OPEN);
+            t.kinds(Script.END, Script.END, Script.METADATA).deliver(2).receiver(0, 5, 0);
         }
-        t.ticks(2).deliver(0, 0, 0).put(4, 0, 0, 0, 1).put(5, 0, 0, 0, 1).ticks(1).copy(3);
-        t.deliver(3).receiver(0, 4, 0).deliver(1).receiver(0, 2, Script.DONE).deliver(3).receiver(0, 4, Script.OPEN);
-        t.kinds(Script.END, Script.END, Script.METADATA).deliver(2).receiver(0, 5, 0);
     }
 
     /** "are open there": one that has ended is open until it is closed. */

@@ -14,6 +14,7 @@ final class SenderEdgesTest {
         whatAFileIsSentAs();
         oneUnitATick();
         lastSegmentHasItsBytes();
+        oldBytesAreNotSent();
         classOneIsClosedWithEnd();
         endAgainInTheTthTick();
         threeEndsThenFailed();
@@ -23,6 +24,7 @@ final class SenderEdgesTest {
         ackBeforeTheCancelledEnd();
         nakNamesWhatIsRepaired();
         repairsInOrder();
+        naksAddUp();
         repairsAreOnce();
         nakOfACancelledOne();
         finishedTellsTheResult();
@@ -124,6 +126,19 @@ final class SenderEdgesTest {
             s.deliverAll().receiver(0, 1, Script.DONE);
             Script t = sending("spoiled last of " + size, 0, size, 1).ticks(last + 2);
             t.spoil(last, 1 << (8 * (bytes - 1))).deliverAll().receiver(0, 1, Script.FAILED);
+        }
+    }
+
+    /** The same of a file that was longer before: it has no byte of that, nor has its checksum. */
+    private static void oldBytesAreNotSent() {
+        for (int size : new int[] {0, 1, 5, 62}) {
+            Script s = new Script("created again with " + size, 0).file(0, 0, 64);
+            s.due("delete", s.x.delete(0, 0), true);
+            s.file(0, 0, size).put(1, 0, 0, 1, 1).ticks(2 + (size + 3) / 4).deliverAll();
+            s.receiver(0, 1, Script.DONE).size(1, 1, size);
+            Script t = new Script("replaced with " + size, 0).file(0, 0, size).file(1, 1, 64).put(1, 0, 0, 1, 1);
+            t.ticks(2 + (size + 3) / 4).deliverAll().size(1, 1, size).put(1, 1, 1, 2, 2);
+            t.ticks(2 + (size + 3) / 4).detail(1 + (size + 3) / 4, size).deliverAll().receiver(1, 1, Script.DONE).size(0, 2, size);
         }
     }
 
@@ -240,6 +255,17 @@ final class SenderEdgesTest {
         s.loseAll().ticks(1).kinds(Script.METADATA).ticks(1).kinds(Script.METADATA, Script.DATA).detail(1, 0);
         s.ticks(1).kinds(Script.METADATA, Script.DATA, Script.DATA).detail(2, 2);
         s.deliverAll().receiver(0, 1, Script.DONE).sender(0, 1, Script.DONE).size(1, 0, 16);
+    }
+
+    /** "are repairs, too": a later NAK that names less takes nothing back. */
+    private static void naksAddUp() {
+        Script s = sending("two NAKs", 0, 12, 2).ticks(5).suspend(0, 1, true, true).deliver(4).deliver(0, 0, 0);
+        s.kinds(Script.DATA, Script.ACK, Script.NAK).detail(2, 8 + 1).ticks(4).detail(3, 1).deliver(2, 2);
+        s.kinds(Script.DATA, Script.ACK).loseAll().suspend(0, 1, false, true).ticks(1).kinds(Script.METADATA).loseAll();
+        for (int segment = 0; segment < 3; segment++) {
+            s.ticks(1).due("kind", s.x.unit(0, 0), Script.DATA);
+            s.detail(0, segment).loseAll();
+        }
     }
 
     /** "(what NAKs asked for and was not sent again yet)": two NAKs of the same ask once; one that comes behind asks again. */
@@ -369,8 +395,10 @@ final class SenderEdgesTest {
                 s.sender(0, 1, kind == 1 ? Script.CANCELLED : Script.OPEN);
             }
         }
-        Script repairs = answered("cancelled with repairs", 0, 8).deliver(0, 0).ticks(1).kinds(Script.METADATA).loseAll();
-        repairs.cancel(0, 1, true).ticks(1).kinds(Script.END).detail(0, -1).loseAll().ticks(1).kinds();
+        for (int sent = 0; sent <= 2; sent++) {
+            Script s = answered("cancelled behind repair " + sent, 7, 8).deliver(0, 0).ticks(sent).loseAll();
+            s.cancel(0, 1, true).ticks(1).kinds(Script.END).detail(0, -1).quietThen(3);
+        }
     }
 
     /** "as the first one": its timer and its three begin again. */
