@@ -13,6 +13,7 @@ final class UseTest {
         exampleStandsInReadme();
         numbersOfUnits();
         numbersOfResults();
+        numbersOfRequests();
         whatThrowsChangesNothing();
         Check.end();
     }
@@ -80,6 +81,16 @@ final class UseTest {
         Script run = new Script("a locked DEST", 0).file(0, 0, 1).file(1, 1, 1);
         run.put(1, 0, 0, 1, 1).put(1, 1, 1, 0, 2).ticks(1).lose(1).ticks(1).lose(2).ticks(1).lose(3);
         run.kinds(Script.METADATA, Script.DATA, Script.END).deliver(0, 0, 0).receiver(0, 1, Script.REJECTED);
+    }
+
+    private static void numbersOfRequests() {
+        Script run = new Script("numbers of requests", 0).file(0, 0, 1);
+        run.due("put", run.x.put(0, 0, 1, 1, 2, 2), 1);
+        run.request(0, 1, 0).ticks(3).deliver(0, 0, 0).request(0, 1, 1).bytes(1, 2, 1);
+        run.due("put", run.x.put(0, 0, 1, 1, 1, 5), 2);
+        run.ticks(3).deliver(0, 0, 0).request(0, 2, 2);
+        run.due("put", run.x.put(0, 0, 1, 1, 1, 2), 3);
+        run.ticks(3).deliver(0, 0, 0).request(0, 3, 1).size(1, 2, -1);
     }
 
     private static void whatThrowsChangesNothing() {
